@@ -70,11 +70,11 @@ public final class NoneMayLeave {
     private final Shelf[] shelves = new Shelf[SHELVES];
     private final Island now = new Island();
     private final Island imaged = new Island();
-    /** What is told, but not or not yet true, is tried on this one. */
+    /** MONTHS that are told, but not or not yet true, are tried on this one. */
     private final Island trial = new Island();
     private final Sets sets = new Sets();
     private final Council sitting = new Council();
-    private final TextReader reader;
+    private final TextReader reader = new TextReader();
     private final Mover mover = new Mover();
     private final int[] refused = new int[REFUSALS];
     private boolean hasImage = false;
@@ -84,7 +84,6 @@ public final class NoneMayLeave {
         for (int s = 0; s < SHELVES; s++) {
             shelves[s] = new Shelf();
         }
-        reader = new TextReader(shelves[0], trial);
     }
 
     // ---- shelves and rows
@@ -243,12 +242,11 @@ public final class NoneMayLeave {
         if (no != 0) {
             return refuse(no);
         }
-        trial.become(now);
-        latestFault = reader.readAll(shelves[s]);
+        latestFault = reader.readAll(shelves[s], now);
         if (latestFault != NONE) {
             return refuse(WRONG);
         }
-        now.become(trial);
+        now.become(reader.told);
         return reader.items;
     }
 
@@ -839,10 +837,6 @@ public final class NoneMayLeave {
             return i >= 0 && i < size ? (int) elements[i] : 0;
         }
 
-        boolean hasSign(int i, char sign) {
-            return i >= 0 && i < size && (int) elements[i] == sign;
-        }
-
         /** Whether the first n elements, as numbers, are all from least to most. */
         boolean areWithin(int n, int least, int most) {
             for (int i = 0; i < n; i++) {
@@ -1381,7 +1375,7 @@ public final class NoneMayLeave {
         }
     }
 
-    /** Reads a text, element by element, and does what it tells to an island. */
+    /** Reads a text, element by element, and does what it tells to an island of its own. */
     private static final class TextReader {
         private static final int WORDS = 8;
         private static final int PARTS_WORD = 0;
@@ -1393,34 +1387,42 @@ public final class NoneMayLeave {
         private static final int GOES_WORD = 6;
         private static final int MOST_DIGITS = 4;
 
-        private final Island island;
-        private Shelf text;
+        private final Island told = new Island();
+        private final int[] signs = new int[LONGEST_ROW];
+        private int size = 0;
         private int at = 0;
         /** Where the latest NUMBER began. */
         private int numberAt = 0;
         private int items = 0;
         private int fault = NONE;
 
-        TextReader(Shelf row, Island onto) {
-            text = row;
-            island = onto;
-        }
-
-        /** The FAULT, or NONE; the island is changed up to it. */
-        int readAll(Shelf row) {
-            text = row;
+        /** The FAULT; NONE: what is told now is how the island is by the whole text. */
+        int readAll(Shelf row, Island now) {
+            told.become(now);
+            takeSigns(row);
             at = 0;
             items = 0;
             fault = NONE;
             for (int i = 0; i <= LONGEST_ROW && fault == NONE; i++) {
                 readItem();
                 items++;
-                if (at >= text.size) {
+                if (at >= size) {
                     break;
                 }
                 readSign(';');
             }
             return fault;
+        }
+
+        private void takeSigns(Shelf row) {
+            size = Math.min(row.size, LONGEST_ROW);
+            for (int i = 0; i < size; i++) {
+                signs[i] = row.number(i);
+            }
+        }
+
+        private boolean hasSign(int i, char sign) {
+            return i >= 0 && i < size && signs[i] == sign;
         }
 
         private void fail(int place) {
@@ -1433,7 +1435,7 @@ public final class NoneMayLeave {
             if (fault != NONE) {
                 return;
             }
-            if (text.hasSign(at, sign)) {
+            if (hasSign(at, sign)) {
                 at++;
             } else {
                 fail(at);
@@ -1465,7 +1467,7 @@ public final class NoneMayLeave {
         private int lettersOf(String word) {
             int n = 0;
             for (int i = 0; i < word.length(); i++) {
-                if (!text.hasSign(at + i, word.charAt(i))) {
+                if (!hasSign(at + i, word.charAt(i))) {
                     break;
                 }
                 n++;
@@ -1490,7 +1492,7 @@ public final class NoneMayLeave {
         }
 
         private int digitAt(int i) {
-            int sign = text.has(i) ? text.number(i) : NONE;
+            int sign = i >= 0 && i < size ? signs[i] : NONE;
             return sign >= '0' && sign <= '9' ? sign - '0' : NONE;
         }
 
@@ -1546,74 +1548,74 @@ public final class NoneMayLeave {
         }
 
         private void readParts() {
-            int n = readNumber(island.parts, MOST_PARTS);
+            int n = readNumber(told.parts, MOST_PARTS);
             if (fault == NONE) {
-                island.parts = n;
+                told.parts = n;
             }
         }
 
         private void readNewMaker(int start) {
-            if (island.isFull()) {
+            if (told.isFull()) {
                 fail(start);
             }
             int kind = readNumber(0, KINDS - 1);
             int a = readNumber(0, GREATEST_A);
             int want = readNumber(0, GREATEST_WANT);
             if (fault == NONE) {
-                island.addMaker(kind, a, want);
+                told.addMaker(kind, a, want);
             }
         }
 
         private void readKnows() {
-            int m = readNumber(0, island.count - 1);
-            int part = readNumber(0, island.parts - 1);
+            int m = readNumber(0, told.count - 1);
+            int part = readNumber(0, told.parts - 1);
             if (fault == NONE) {
-                island.learn(m, part, true);
+                told.learn(m, part, true);
             }
         }
 
         private void readKin() {
-            int m = readNumber(0, island.count - 1);
-            int l = readNumber(0, island.count - 1);
+            int m = readNumber(0, told.count - 1);
+            int l = readNumber(0, told.count - 1);
             if (m == l) {
                 fail(numberAt);
             }
             if (fault == NONE) {
-                island.join(m, l, true);
+                told.join(m, l, true);
             }
         }
 
         private void readFear() {
             int n = readNumber(0, GREATEST_FEAR);
             if (fault == NONE) {
-                island.fear = n;
+                told.fear = n;
             }
         }
 
         private void readPurse() {
             int n = readNumber(0, GREATEST_PURSE);
             if (fault == NONE) {
-                island.purse = n;
+                told.purse = n;
             }
         }
 
         private void readGoes() {
-            int m = readNumber(0, island.count - 1);
-            if (!island.isAt(m, HOME)) {
+            int m = readNumber(0, told.count - 1);
+            if (!told.isAt(m, HOME)) {
                 fail(numberAt);
             }
             if (fault == NONE) {
-                island.moveTo(m, ABROAD);
+                told.moveTo(m, ABROAD);
             }
         }
 
         private void readDies() {
-            int m = readNumber(0, island.count - 1);
-            if (island.isAt(m, DEAD)) {
+            int m = readNumber(0, told.count - 1);
+            if (told.isAt(m, DEAD)) {
                 fail(numberAt);
             }
             if (fault == NONE) {
-                island.moveTo(m, DEAD);
+                told.moveTo(m, DEAD);
             }
         }
     }

@@ -71,6 +71,13 @@ public final class ImageTest {
         x.maker(0, 0, 33);
         DUE.is("holds(1): nothing still", x.holds(1), -1);
         DUE.is("says(1, 0): nothing", x.says(1, 0), -3);
+        for (int s = 0; s < 8; s++) {
+            x.show(s, 1);
+        }
+        x.restore();
+        for (int s = 0; s < 8; s++) {
+            DUE.is("every shelf: holds(" + s + ")", x.holds(s), -1);
+        }
     }
 
     private static void notImaged() {

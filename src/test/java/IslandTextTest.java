@@ -111,6 +111,9 @@ public final class IslandTextTest {
         faultIs(x, "kin", 3);
         faultIs(x, "fear", 4);
         faultIs(x, "fear;", 4);
+        faultIs(x, "fear1", 4);
+        faultIs(x, "maker 0 0,0", 9);
+        faultIs(x, "fear 1fear 1", 6);
         faultIs(x, "fear 1;", 7);
         faultIs(x, "fear 1; fear 1", 7);
         faultIs(x, "fear 1;;", 7);

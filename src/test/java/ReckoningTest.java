@@ -8,6 +8,8 @@ public final class ReckoningTest {
     public static void main(String[] args) {
         abroad();
         fewest();
+        eight();
+        firsts();
         cheapest();
         alone();
         without();
@@ -71,6 +73,48 @@ public final class ReckoningTest {
         x.deed(0, 0);
         DUE.is("fewest: none", x.fewest(), -1);
         DUE.is("fewest: nobody there", new NoneMayLeave().fewest(), -1);
+    }
+
+    /** Eight makers, each alone with his part. */
+    private static void eight() {
+        NoneMayLeave x = plain(8, new int[8], new int[] {1, 2, 4, 8, 16, 32, 64, 128});
+        DUE.is("fewest: all eight", x.fewest(), 255);
+        DUE.is("cheapest(0): all eight", x.cheapest(0), 255);
+        DUE.is("spend(): all eight", x.spend(), 255);
+        DUE.is("sold(7)", x.sold(7), 0);
+        DUE.is("sold(8)", x.sold(8), 1);
+        DUE.is("offer(0): all eight", x.offer(0), 255);
+        DUE.is("alone(0): all eight", x.alone(0), 255);
+        DUE.is("alone(1): the first", x.alone(1), 0);
+        DUE.is("stands()", x.stands(), 0);
+        DUE.is("lessons(7)", x.lessons(7), 56);
+        DUE.is("lessons(8)", x.lessons(8), -1);
+        DUE.is("council(1, NONE)", x.council(1, -1), 10000);
+        DUE.is("council(1, 0)", x.council(1, 0), 10);
+        x.bid(7, 0);
+        x.knows(0, 7, true);
+        x.knows(7, 0, true);
+        x.knows(7, 1, true);
+        for (int p = 2; p < 7; p++) {
+            x.knows(0, p, true);
+            x.knows(1, p, true);
+        }
+        x.ask(1, 9999);
+        DUE.is("council(1, NONE): the last killed", x.council(1, -1), 20);
+        DUE.is("council(1, 0): the last killed", x.council(1, 0), 27);
+    }
+
+    /** Where the first part or the first maker alone makes the difference. */
+    private static void firsts() {
+        NoneMayLeave x = plain(4, new int[] {1, 1}, new int[] {14, 14});
+        DUE.is("alone(0): the first part nobody knows", x.alone(0), 0);
+        DUE.is("stands(): the first part", x.stands(), -1);
+        DUE.is("lessons(0): the first part", x.lessons(0), -1);
+        x.knows(0, 0, true);
+        DUE.is("stands(): the first part", x.stands(), 0);
+        DUE.is("lessons(1): the first part", x.lessons(1), 1);
+        DUE.is("alone(0): the first part", x.alone(0), 1);
+        DUE.is("alone(1): the first maker", x.alone(1), 0);
     }
 
     private static void cheapest() {
@@ -246,6 +290,8 @@ public final class ReckoningTest {
         x.ask(1, 39);
         DUE.is("council(1, NONE): more than the purse", x.council(1, -1), 10000);
         DUE.is("council(0, NONE): the purse has it", x.council(0, -1), 25);
+        x.ask(1, 25);
+        DUE.is("council(0, NONE): the purse has just that", x.council(0, -1), 25);
         x.ask(1, 24);
         DUE.is("council(2, NONE): nothing need be done", x.council(2, -1), 10000);
         DUE.is("council(2, 0)", x.council(2, 0), 0);

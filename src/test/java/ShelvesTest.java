@@ -155,6 +155,13 @@ public final class ShelvesTest {
         DUE.is("element: no shelf", x.element(-1, 0), 0);
         x.row(0, 0, 1);
         DUE.is("element: of the row before", x.element(0, 1), 0);
+        Texts.numbers(x, 0, 0, 3, 4);
+        x.show(0, 0);
+        DUE.is("element: of the row ahead of a maker", x.element(0, 0), 0);
+        Texts.numbers(x, 0, 0, 3, 4);
+        x.show(0, -1);
+        DUE.is("element: of the row ahead of nothing", x.element(0, 0), 0);
+        DUE.is("element: of the row ahead of nothing", x.element(0, 1), 0);
         for (int what = 11; what <= 17; what++) {
             DUE.is("nothing is refused: status(" + what + ")", x.status(what), 0);
         }

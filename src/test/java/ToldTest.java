@@ -65,11 +65,13 @@ public final class ToldTest {
         Texts.numbers(x, S, 0, 0, -1);
         DUE.is("letter: word -1", x.letter(S, 2, 0), -6);
         DUE.is("letter: only the first", x.letter(S, 1, 0), 1);
+        x.set(S, 0, 8);
+        DUE.is("letter: the first may not be", x.letter(S, 1, 0), -6);
         for (int what = 11; what <= 14; what++) {
             DUE.is("status(" + what + ")", x.status(what), what == 11 ? 2 : 1);
         }
         DUE.is("status(15)", x.status(15), 2);
-        DUE.is("status(16)", x.status(16), 4);
+        DUE.is("status(16)", x.status(16), 5);
     }
 
     private static void keys() {
@@ -179,13 +181,16 @@ public final class ToldTest {
         DUE.is("who: two sorts", x.who(0, 1, 1), 0);
         x.set(0, 1, -1);
         DUE.is("who: a set of others", x.who(0, 1, 2), -6);
+        x.set(0, 0, 2);
+        x.set(0, 1, 1);
+        DUE.is("who: the first a set of others", x.who(0, 1, 2), -6);
         x.row(0, 1, 41);
         x.row(1, 1, 41);
         DUE.is("who: 41", x.who(0, 1, 41), -6);
         DUE.is("who: 40", x.who(0, 1, 40), 1);
         DUE.is("status(12)", x.status(12), 2);
         DUE.is("status(15)", x.status(15), 2);
-        DUE.is("status(16)", x.status(16), 4);
+        DUE.is("status(16)", x.status(16), 5);
     }
 
     /** Makers 0 of 10, 1 of 20, a double 2 of 30 (15); 0 and 1 know all together. */
@@ -266,6 +271,7 @@ public final class ToldTest {
         DUE.is("behind: fewer elements", x.behind(S, 41, 0), -5);
         DUE.is("behind: another what", x.behind(S, 1, 3), -5);
         DUE.is("behind: another what", x.behind(S, 1, -1), -5);
+        DUE.is("behind: another what ahead of 41", x.behind(3, 41, 3), -5);
         DUE.is("behind: 41", x.behind(3, 41, 0), -6);
         DUE.is("done: no shelf", x.done(8, -1), -1);
         DUE.is("done: a maker", x.done(A_MAKER, -1), -2);
@@ -273,7 +279,7 @@ public final class ToldTest {
         DUE.is("done: n below 0", x.done(S, -1), -4);
         DUE.is("done: fewer elements", x.done(S, 41), -5);
         DUE.is("done: 41", x.done(3, 41), -6);
-        int[] due = {3, 3, 3, 3, 5, 3, 0};
+        int[] due = {3, 3, 3, 3, 6, 3, 0};
         for (int i = 0; i < 7; i++) {
             DUE.is("status(" + (11 + i) + ")", x.status(11 + i), due[i]);
         }

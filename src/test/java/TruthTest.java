@@ -170,6 +170,11 @@ public final class TruthTest {
                 x.ask(0, fear);
                 x.seed(seed * 7919);
                 DUE.is("write by seed " + seed * 7919, x.write(), drawn(seed * 7919, 100) < fear ? 1 : 0);
+                int draw = drawn(seed * 7919, 100);
+                x.seed(seed * 7919);
+                x.bid(0, 99);
+                x.ask(0, draw);
+                DUE.is("write: the draw is not below fear " + draw, x.status(3) == 1 ? x.write() : 0, 0);
             }
         }
     }
@@ -217,6 +222,8 @@ public final class TruthTest {
         y.ask(1, 0);
         DUE.is("years: nobody can be paid", y.years(100), 0);
         DUE.is("status(2)", y.status(2), 1);
+        DUE.is("years(1)", y.years(1), 0);
+        DUE.is("status(7)", y.status(7), 101);
     }
 
     /** Ten months each by draws that are told one by one, month after month, against the calls in truth. */
