@@ -53,10 +53,9 @@ public final class NoneMayLeave {
     private static final int SHUT_UP = 2;
     private static final int DEAD = 3;
 
-    private static final int SHUT = 0;
-    private static final int KILL = 1;
-    private static final int FREE = 2;
+    /** Deeds by numbers: SHUT, KILL, FREE. */
     private static final int DEEDS = 3;
+    private static final int KILL = 1;
     /** By deeds: where one must be for it, where he is then, and by how much FEAR grows. */
     private static final int[] DEED_FROM = {HOME, ABROAD, SHUT_UP};
     private static final int[] DEED_TO = {SHUT_UP, DEAD, HOME};
@@ -1686,8 +1685,7 @@ public final class NoneMayLeave {
                 case 11:
                     return run(kind, BLOWS, x, depth) * 2;
                 case 12:
-                    int price = run(kind, SELLS, x, depth);
-                    return price ^ run(kind, BLOWS, x - a, depth);
+                    return run(kind, SELLS, x, depth) ^ run(kind, BLOWS, x - a, depth);
                 case 20:
                     return run(above, BLOWS, x, depth) + a;
                 case 30:

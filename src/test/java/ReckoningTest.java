@@ -276,6 +276,7 @@ public final class ReckoningTest {
         NoneMayLeave z = plain(4, new int[] {10, 10, 0}, new int[] {1, 2, 0});
         z.ask(1, 10);
         DUE.is("spend(): as dear, the least as bits", z.spend(), 1);
+        DUE.is("spend(): nobody for one who knows nothing", plain(4, new int[1], new int[1]).spend(), 0);
     }
 
     private static void council() {

@@ -197,6 +197,16 @@ public final class TruthTest {
         DUE.is("month: nobody", x.month(), 0);
         DUE.is("status(7)", x.status(7), 2);
         DUE.is("month on a new island", new NoneMayLeave().month(), 0);
+        NoneMayLeave y = new NoneMayLeave();
+        for (int m = 0; m < 8; m++) {
+            y.maker(m < 4 ? 2 : 5, 0, 0);
+            y.knows(m, m % 4, true);
+            y.bid(m, 0);
+        }
+        DUE.is("month: all eight come", y.month(), 8);
+        for (int m = 0; m < 8; m++) {
+            DUE.is("makerOf(" + m + ", 3)", y.makerOf(m, 3), 15);
+        }
     }
 
     private static void years() {
