@@ -109,6 +109,10 @@ public final class PromisesIslandTest {
         SAID.is("kin(0, 2, false)", x.kin(0, 2, false), 0);
         SAID.is("makerOf(0, 4)", x.makerOf(0, 4), 2);
         SAID.is("makerOf(2, 4)", x.makerOf(2, 4), 0);
+        SAID.is("kin(0, 1, true): they were", x.kin(0, 1, true), 1);
+        SAID.is("kin(3, 1, false): they were", x.kin(3, 1, false), 1);
+        SAID.is("kin(5, 4, false): they were", x.kin(5, 4, false), 1);
+        SAID.is("kin(5, 6, false): they weren't", x.kin(5, 6, false), 0);
         SAID.says("-1");
         no("kin(7, 7, true)", y -> y.kin(7, 7, true), -1);
         no("kin(-1, -1, true)", y -> y.kin(-1, -1, true), -1);

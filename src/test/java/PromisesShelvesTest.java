@@ -202,6 +202,10 @@ public final class PromisesShelvesTest {
         SAID.is("element(0, 0) of a maker", x.element(0, 0), 0);
         x.show(0, -1);
         SAID.is("element(0, 0) of nothing", x.element(0, 0), 0);
+        Texts.numbers(x, 1, 2, 6, 7, 8);
+        x.show(1, -1);
+        SAID.is("element(1, 0) of nothing where a row was", x.element(1, 0), 0);
+        SAID.is("element(1, 2) of nothing where a row was", x.element(1, 2), 0);
         SAID.says("(nothing is refused).");
         for (int s : new int[] {-1, 8, A_MAKER, NOTHING, Made.EMPTY, Integer.MIN_VALUE, Integer.MAX_VALUE}) {
             SAID.quiet(Made::rich, "element(" + s + ", 0)", z -> z.element(s, 0), 0);

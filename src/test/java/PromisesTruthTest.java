@@ -387,6 +387,14 @@ public final class PromisesTruthTest {
         more.show(7, 1);
         SAID.is("restore()", more.restore(), 2);
         SAID.is("holds(7): the last of them", more.holds(7), 1);
+        more.maker(0, 0, 3);
+        for (int s = 0; s < 8; s++) {
+            more.show(s, 2);
+        }
+        more.restore();
+        for (int s = 0; s < 8; s++) {
+            SAID.is("holds(" + s + "): he was made later", more.holds(s), -1);
+        }
         SAID.says("-6 there is none.");
         SAID.refused(NoneMayLeave::new, "restore() of a new object", z -> z.restore(), -6);
         SAID.refused(() -> Made.by("maker 0 0 0"), "restore() without an image", z -> z.restore(), -6);

@@ -425,6 +425,14 @@ public final class TermsComesTest {
         NoneMayLeave z = Made.plain(4, new int[] {10, 10}, new int[] {3, 12});
         z.bid(0, 10);
         SAID.is("council(1, 0): 1 shut up ahead of 0 killed", z.council(1, 0), 11);
+        // Spies who go for nothing, whatever is done.
+        Texts.island(z, "maker 5 0 0;maker 5 0 0;maker 5 0 0");
+        for (int m = 2; m < 5; m++) {
+            Made.know(z, m, 15);
+        }
+        SAID.is("council(2, NONE): it costs nothing, whatever is done", z.council(2, -1), 0);
+        SAID.is("council(2, 0): so nothing", z.council(2, 0), 0);
+        SAID.is("council(2, 1): so nothing", z.council(2, 1), 0);
     }
 
     private static void councilNumbers() {

@@ -398,6 +398,15 @@ public final class TermsIslandTest {
         bad("maker 0 0 ", 10);
         bad("fear 1;", 7);
         bad("fear 1;k", 8);
+        bad("kin", 3);
+        bad("kin ", 4);
+        bad("kin 0", 5);
+        bad("kin 0 ", 6);
+        SAID.is("fault of 'goes', 0 is abroad", Texts.fault(Made.by("maker 0 0 0;goes 0"), "goes"), 4);
+        SAID.is("fault of 'goes ', 0 is abroad", Texts.fault(Made.by("maker 0 0 0;goes 0"), "fear 1;goes "), 12);
+        SAID.is("fault of 'dies', 0 is dead", Texts.fault(Made.by("maker 0 0 0;dies 0"), "dies"), 4);
+        SAID.is("fault of 'dies ', 0 is dead", Texts.fault(Made.by("maker 0 0 0;dies 0"), "fear 1;dies "), 12);
+        SAID.is("fault of 'goes', no makers", Texts.fault(new NoneMayLeave(), "goes"), 4);
         SAID.says("of a NUMBER that may not be the place of its first digit.");
         bad("fear 100", 5);
         bad("fear 0100", 5);
